@@ -561,6 +561,19 @@ public final class PromiseTest {
             character 1 0 = 98
             subtitle 1 2 = 5
             """);
+        promise(11, "the middle lies at half the length minus 1", """
+            write 0-50:aa bb c|60-90:aaa bb ccc|100-130:a bb cc dd e
+            load = 3
+            subtitle 0 6 = 2
+            subtitle 1 6 = 3
+            subtitle 2 6 = 4
+            write 200-230:aa b ccc
+            load = 1
+            subtitle 3 6 = 4
+            write 300-330:aaa b cc
+            load = 1
+            subtitle 4 6 = 3
+            """);
         promise(11, "comma before any, full stop before comma", """
             write 0-50:a, bbbb cccc dd|60-99:aaaa bbbb, cccc d.|100-150:aaa, bbb, ccc d. e
             load = 3
@@ -645,6 +658,22 @@ public final class PromiseTest {
             character 0 2 = 32
             character 0 3 = 99
             join 0 = NO_SUCH
+            """);
+        promise(12, "the ones behind keep their order", """
+            write 0-10:a|20-30:b|40-50:c|60-70:d|80-90:e
+            load = 5
+            join 1 = 3
+            subtitles = 4
+            subtitle 1 0 = 20
+            subtitle 1 1 = 50
+            subtitle 2 0 = 60
+            character 2 0 = 100
+            character 3 0 = 101
+            write 100-110:f
+            load = 1
+            character 1 2 = 99
+            character 3 0 = 101
+            character 4 0 = 102
             """);
         promise(12, "at most 40 characters", """
             write 0-10:aaaaaaaaaaaaaaaaaaaa|20-30:bbbbbbbbbbbbbbbbbbbb
@@ -755,6 +784,17 @@ public final class PromiseTest {
             cut 25 = 1
             seat = 1
             subtitle 0 1 = 25
+            """);
+        promise(13, "a far cut is left alone, and the earlier one of two is taken", """
+            write 0-100:a|200-240:b
+            load = 2
+            cut 50 = 1
+            cut 150 = 2
+            seat = 0
+            cut 237 = 3
+            cut 243 = 4
+            seat = 1
+            subtitle 1 1 = 237
             """);
         promise(13, "no subtitles", "seat = 0\nundo = 0");
     }
@@ -979,6 +1019,11 @@ public final class PromiseTest {
             setEnd 0 6 = 5
             shown = 99
             """);
+        promise(27, "one frame", """
+            write 7-8:abc
+            load = 1
+            meanSpeed = 75.0
+            """);
         promise(27, "meanSpeed", """
             meanSpeed = 0.0
             write 0-7:a|10-13:bb|20-26:ccccc
@@ -1069,6 +1114,13 @@ public final class PromiseTest {
             faulty min = BAD_VALUE
             faulty max = BAD_VALUE
             """);
+        promise(25, "any fault counts for 0", """
+            write 0-25:aaaaaaaaaabbbbbbbbbb
+            load = 1
+            subtitle 0 4 = 1
+            faulty 0 = 1
+            faulty 1 = 1
+            """);
         promise(25, "faulty lines", """
             write 0-100:aaaaaaaaaabbbbbbbbbbc
             load = 1
@@ -1080,6 +1132,55 @@ public final class PromiseTest {
     }
 
     private static void wouldBes() throws Exception {
+        promise(30, "a full film", """
+            write 0-1:a|2-3:b|4-5:c|6-7:d|8-9:e|10-11:f|12-13:g|14-15:h|16-17:i|18-19:j
+            load = 10
+            write 20-21:a|22-23:b|24-25:c|26-27:d|28-29:e|30-31:f|32-33:g|34-35:h|36-37:i
+            load = 9
+            write 38-39:s
+            load = 1
+            cut 101 = 1
+            cut 102 = 2
+            cut 103 = 3
+            cut 104 = 4
+            cut 105 = 5
+            cut 106 = 6
+            cut 107 = 7
+            cut 108 = 8
+            cut 109 = 9
+            cut 110 = 10
+            cut 111 = 11
+            cut 112 = 12
+            cut 113 = TOO_MANY
+            at 39 = NONE
+            at 38 = 19
+            shown = 20
+            meanSpeed = 25.0
+            unread 24 = 20
+            unread 25 = 0
+            leastPace = 25
+            faulty 0 = 20
+            faulty 8 = 19
+            faulty 16 = 0
+            bestGap = 0
+            ifSeated 0 = 1
+            ifSeated 1 = 19
+            ifSeated 2 = 44
+            shift 0 1 = 20
+            subtitle 19 1 = 40
+            seat = 2
+            subtitle 0 0 = 0
+            subtitle 19 1 = 64
+            undo = 3
+            cuts = 12
+            uncut 101 = 11
+            uncut 112 = 10
+            cutAt 0 = 102
+            cutAt 9 = 111
+            cutAt 10 = NONE
+            join 18 = 3
+            remove 0 = 18
+            """);
         promise(28, "unread", """
             unread 1 = 0
             unread 0 = BAD_VALUE
@@ -1173,18 +1274,6 @@ public final class PromiseTest {
             seat = 1
             faulty 1 = 0
             subtitle 1 0 = 28
-            """);
-        promise(31, "the gap may be 20", """
-            set LEAST 5 = 25
-            set SPEED 25 = 17
-            set SNAP 12 = 6
-            cut 36 = 1
-            write 0-25:a|55-65:bbbbbbbbbbbbbbbbbbbbbbbbbbbbbb|66-99:c
-            load = 3
-            bestGap = 0
-            cut 56 = 2
-            uncut 36 = 1
-            bestGap = 0
             """);
     }
 }
