@@ -1275,5 +1275,18 @@ public final class PromiseTest {
             faulty 1 = 0
             subtitle 1 0 = 28
             """);
+        promise(31, "only a gap of 11 helps, as large as it can be with SNAP at most 12", """
+            set LEAST 5 = 25
+            set SPEED 25 = 17
+            set SNAP 12 = 6
+            write 0-25:a|47-57:aaaaaaaaaabbbbbbbbbbc|57-90:c
+            load = 3
+            bestGap = 0
+            cut 37 = 1
+            bestGap = 11
+            setting GAP = 2
+            undo = 3
+            bestGap = 0
+            """);
     }
 }
