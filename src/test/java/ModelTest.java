@@ -10,10 +10,8 @@ import java.util.List;
  */
 public final class ModelTest {
     private static final int RUNS = 2000;
-    private static final int CALLS = 512;
-    private static final String[] NAMES = {"append", "clearScript", "fault", "load", "why", "undo", "remove", "shift",
-        "setEnd", "split", "join", "seat", "cut", "uncut", "set", "subtitles", "subtitle", "character", "line", "at",
-        "cuts", "cutAt", "setting", "faulty", "shown", "meanSpeed", "unread", "leastPace", "ifSeated", "bestGap"};
+    private static final int CALLS = Call.MOST_CALLS;
+    private static final String[] NAMES = Call.NAMES;
 
     private static long seed = 1;
     private static final long[] answered = new long[NAMES.length];
@@ -65,7 +63,7 @@ public final class ModelTest {
                 a = call[1];
                 b = call[2];
             }
-            double got = answer(x, method, a, b);
+            double got = new Call(NAMES[method], a, b).on(x);
             double due = model.answer(method, a, b);
             story.append(NAMES[method]).append('(').append(a).append(", ").append(b).append(") ").append(got).append('\n');
             if (got != due) {
@@ -215,41 +213,6 @@ public final class ModelTest {
             case "character": return pick(43) - 1;
             case "line": return pick(8) - 1;
             default: return 0;
-        }
-    }
-
-    private static double answer(SubtitleSeats x, int method, int a, int b) {
-        switch (NAMES[method]) {
-            case "append": return x.append(a);
-            case "clearScript": return x.clearScript();
-            case "fault": return x.fault();
-            case "load": return x.load();
-            case "why": return x.why(a);
-            case "undo": return x.undo();
-            case "remove": return x.remove(a);
-            case "shift": return x.shift(a, b);
-            case "setEnd": return x.setEnd(a, b);
-            case "split": return x.split(a);
-            case "join": return x.join(a);
-            case "seat": return x.seat();
-            case "cut": return x.cut(a);
-            case "uncut": return x.uncut(a);
-            case "set": return x.set(a, b);
-            case "subtitles": return x.subtitles();
-            case "subtitle": return x.subtitle(a, b);
-            case "character": return x.character(a, b);
-            case "line": return x.line(a, b);
-            case "at": return x.at(a);
-            case "cuts": return x.cuts();
-            case "cutAt": return x.cutAt(a);
-            case "setting": return x.setting(a);
-            case "faulty": return x.faulty(a);
-            case "shown": return x.shown();
-            case "meanSpeed": return x.meanSpeed();
-            case "unread": return x.unread(a);
-            case "leastPace": return x.leastPace();
-            case "ifSeated": return x.ifSeated(a);
-            default: return x.bestGap();
         }
     }
 

@@ -1,31 +1,6 @@
-import java.lang.reflect.Method;
-import java.util.ArrayList;
-import java.util.HashMap;
-import java.util.List;
-import java.util.Map;
-import java.util.TreeSet;
-
-/**
- * Runs of calls on new objects, promise by promise, with the answers that are due.
- *
- * A row is a call with its arguments and, behind "=", its answer: a number or the name of a constant.
- * "write TEXT" empties the script and appends the text, "more TEXT" appends only; a text that is due to begin or
- * end with a blank is written with "_" in place of the blank.
- */
+/** Ordinary runs of calls on new objects, promise by promise, with the answers that are due; Rows tells the form. */
 public final class PromiseTest {
-    private static final Map<String, Integer> CONSTANTS = new HashMap<>();
-    private static final Map<String, Method> METHODS = new HashMap<>();
-    private static final TreeSet<Integer> PROMISES = new TreeSet<>();
-    private static int checks = 0;
-    private static int wrong = 0;
-
-    public static void main(String[] args) throws Exception {
-        for (Method method : SubtitleSeats.class.getDeclaredMethods()) {
-            METHODS.put(method.getName(), method);
-        }
-        for (java.lang.reflect.Field field : SubtitleSeats.class.getFields()) {
-            CONSTANTS.put(field.getName(), field.getInt(null));
-        }
+    public static void main(String[] args) {
         newObject();
         scripts();
         loads();
@@ -36,72 +11,11 @@ public final class PromiseTest {
         questions();
         faults();
         wouldBes();
-        for (int promise = 1; promise <= 31; promise++) {
-            if (!PROMISES.contains(promise)) {
-                wrong++;
-                System.out.println("promise " + promise + " has no test");
-            }
-        }
-        System.out.println(wrong == 0 ? "all " + checks + " answers are as due" : wrong + " answers are not as due");
-        if (wrong != 0) {
-            System.exit(1);
-        }
+        Rows.finish(1, 31);
     }
 
-    private static void promise(int number, String what, String rows) throws Exception {
-        PROMISES.add(number);
-        SubtitleSeats x = new SubtitleSeats();
-        int rowNumber = 0;
-        for (String row : rows.strip().split("\n")) {
-            rowNumber++;
-            String place = "promise " + number + ", " + what + ", row " + rowNumber + ": ";
-            String line = row.strip();
-            if (line.startsWith("write ")) {
-                x.clearScript();
-                write(x, line.substring(6));
-            } else if (line.startsWith("more ")) {
-                write(x, line.substring(5));
-            } else {
-                check(x, place, line);
-            }
-        }
-    }
-
-    private static void write(SubtitleSeats x, String text) {
-        for (char character : text.replace('_', ' ').toCharArray()) {
-            x.append(character);
-        }
-    }
-
-    private static void check(SubtitleSeats x, String place, String row) throws Exception {
-        String[] sides = row.split(" = ");
-        List<Object> arguments = new ArrayList<>();
-        String[] words = sides[0].strip().split(" ");
-        for (int i = 1; i < words.length; i++) {
-            arguments.add(value(words[i]));
-        }
-        Object got = METHODS.get(words[0]).invoke(x, arguments.toArray());
-        String due = sides[1].strip();
-        boolean right = got instanceof Float ? (Float) got == Float.parseFloat(due) : (Integer) got == value(due);
-        checks++;
-        if (!right) {
-            wrong++;
-            System.out.println(place + row + ", but it answered " + got);
-        }
-    }
-
-    private static int value(String word) {
-        if (word.equals("min")) {
-            return Integer.MIN_VALUE;
-        }
-        if (word.equals("max")) {
-            return Integer.MAX_VALUE;
-        }
-        return CONSTANTS.containsKey(word) ? CONSTANTS.get(word) : Integer.parseInt(word);
-    }
-
-    private static void newObject() throws Exception {
-        promise(1, "a new object", """
+    private static void newObject() {
+        Rows.promise(1, "a new object", """
             subtitles = 0
             cuts = 0
             clearScript = 0
@@ -123,8 +37,8 @@ public final class PromiseTest {
             """);
     }
 
-    private static void scripts() throws Exception {
-        promise(2, "append counts", """
+    private static void scripts() {
+        Rows.promise(2, "append counts", """
             append 32 = 1
             append 126 = 2
             append 31 = BAD_VALUE
@@ -134,7 +48,7 @@ public final class PromiseTest {
             append 97 = 3
             clearScript = 3
             """);
-        promise(2, "append up to 80", """
+        Rows.promise(2, "append up to 80", """
             write aaaaaaaaaabbbbbbbbbbccccccccccddddddddddeeeeeeeeeeffffffffffgggggggggghhhhhhhhh
             append 97 = 80
             append 97 = TOO_MANY
@@ -142,7 +56,7 @@ public final class PromiseTest {
             clearScript = 80
             append 97 = 1
             """);
-        promise(3, "clearScript", """
+        Rows.promise(3, "clearScript", """
             write 1-2:a
             clearScript = 5
             clearScript = 0
@@ -153,8 +67,8 @@ public final class PromiseTest {
         textFaults();
     }
 
-    private static void numberFaults() throws Exception {
-        promise(4, "numbers", """
+    private static void numberFaults() {
+        Rows.promise(4, "numbers", """
             fault = 0
             write 0
             fault = 1
@@ -195,7 +109,7 @@ public final class PromiseTest {
             write 1_-2:a
             fault = 1
             """);
-        promise(4, "entries", """
+        Rows.promise(4, "entries", """
             write 1-2:a|
             fault = 6
             write 1-2:a|3-4:b
@@ -215,8 +129,8 @@ public final class PromiseTest {
             """);
     }
 
-    private static void textFaults() throws Exception {
-        promise(4, "texts", """
+    private static void textFaults() {
+        Rows.promise(4, "texts", """
             write 1-2:
             fault = 4
             write 1-2:A
@@ -242,7 +156,7 @@ public final class PromiseTest {
             write 1-2:a_b_c
             fault = NONE
             """);
-        promise(4, "lengths of texts", """
+        Rows.promise(4, "lengths of texts", """
             write 1-2:aaaaaaaaaabbbbbbbbbbccccccccccdddddddddd
             fault = NONE
             write 1-2:aaaaaaaaaabbbbbbbbbbccccccccccdddddddddde
@@ -256,15 +170,15 @@ public final class PromiseTest {
             write 1-2:aaaaaaaaaabbbbbbbbbbccccccccccdddddddd_e
             fault = NONE
             """);
-        promise(4, "a script of 80 characters", """
+        Rows.promise(4, "a script of 80 characters", """
             write 0-1:a|0-1:a|0-1:a|0-1:a|0-1:a|0-1:a|0-1:a|0-1:a|0-1:a|0-1:a|0-1:a|0-1:a|0-1:a|0-
             fault = 80
             load = BAD_TEXT
             """);
     }
 
-    private static void loads() throws Exception {
-        promise(5, "load keeps the order of the starts", """
+    private static void loads() {
+        Rows.promise(5, "load keeps the order of the starts", """
             write 50-60:b c|10-20:a|30-40:,.
             load = 3
             subtitles = 3
@@ -283,7 +197,7 @@ public final class PromiseTest {
             character 2 0 = 121
             subtitle 4 2 = 3
             """);
-        promise(5, "load with a faulty script", """
+        Rows.promise(5, "load with a faulty script", """
             load = BAD_TEXT
             write 1-2:a|
             load = BAD_TEXT
@@ -291,7 +205,7 @@ public final class PromiseTest {
             undo = NONE
             why 0 = NONE
             """);
-        promise(5, "load stops at an entry that meets another one", """
+        Rows.promise(5, "load stops at an entry that meets another one", """
             write 10-20:a|20-30:b|5-10:c|29-31:d|40-50:e
             load = 3
             subtitles = 3
@@ -311,7 +225,7 @@ public final class PromiseTest {
             write 4999-5000:x
             load = 1
             """);
-        promise(5, "load up to 20", """
+        Rows.promise(5, "load up to 20", """
             write 0-1:a|2-3:b|4-5:c|6-7:d|8-9:e|10-11:f|12-13:g|14-15:h|16-17:i|18-19:j
             load = 10
             write 20-21:a|22-23:b|24-25:c|26-27:d|28-29:e|30-31:f|32-33:g|34-35:h|36-37:i
@@ -334,7 +248,7 @@ public final class PromiseTest {
             subtitle 19 1 = 39
             subtitle 20 1 = NO_SUCH
             """);
-        promise(6, "why", """
+        Rows.promise(6, "why", """
             write 1-2:a|7-7:b
             load = 1
             why 0 = 1
@@ -363,8 +277,8 @@ public final class PromiseTest {
             """);
     }
 
-    private static void histories() throws Exception {
-        promise(7, "undo keeps script and report", """
+    private static void histories() {
+        Rows.promise(7, "undo keeps script and report", """
             write 0-50:ab cd|9-9:x
             load = 1
             cut 7 = 1
@@ -381,7 +295,7 @@ public final class PromiseTest {
             clearScript = 16
             undo = NONE
             """);
-        promise(7, "four states at most", """
+        Rows.promise(7, "four states at most", """
             set SPEED 5 = 17
             set SPEED 6 = 5
             set SPEED 7 = 6
@@ -399,7 +313,7 @@ public final class PromiseTest {
             undo = NONE
             setting SPEED = 5
             """);
-        promise(7, "every action is recorded even without a change", """
+        Rows.promise(7, "every action is recorded even without a change", """
             write 0-50:ab cd|60-90:x
             load = 2
             load = 0
@@ -407,7 +321,7 @@ public final class PromiseTest {
             undo = 0
             undo = NONE
             """);
-        promise(7, "which calls are recorded", """
+        Rows.promise(7, "which calls are recorded", """
             write 0-50:ab cd|60-90:x
             load = 2
             shift 0 0 = 2
@@ -439,7 +353,7 @@ public final class PromiseTest {
             undo = 2
             cutAt 0 = 9
             """);
-        promise(7, "errors and questions are not recorded", """
+        Rows.promise(7, "errors and questions are not recorded", """
             write 0-50:ab
             load = 1
             undo = 0
@@ -459,8 +373,8 @@ public final class PromiseTest {
             """);
     }
 
-    private static void changes() throws Exception {
-        promise(8, "remove", """
+    private static void changes() {
+        Rows.promise(8, "remove", """
             write 0-5:a|10-15:b|20-25:c
             load = 3
             remove 3 = NO_SUCH
@@ -479,7 +393,7 @@ public final class PromiseTest {
             load = 1
             character 0 0 = 122
             """);
-        promise(9, "shift", """
+        Rows.promise(9, "shift", """
             write 10-20:a|30-40:b|50-4000:c
             load = 3
             shift 3 0 = NO_SUCH
@@ -509,7 +423,7 @@ public final class PromiseTest {
             subtitle 2 1 = 4001
             shift 0 0 = 3
             """);
-        promise(10, "setEnd", """
+        Rows.promise(10, "setEnd", """
             write 10-20:a|30-40:b
             load = 2
             setEnd 2 50 = NO_SUCH
@@ -532,8 +446,8 @@ public final class PromiseTest {
         joins();
     }
 
-    private static void splits() throws Exception {
-        promise(11, "split where the sense allows", """
+    private static void splits() {
+        Rows.promise(11, "split where the sense allows", """
             write 0-50:a, b. c d, e
             load = 1
             subtitle 0 6 = 5
@@ -550,7 +464,7 @@ public final class PromiseTest {
             subtitle 1 6 = 4
             subtitle 0 6 = 2
             """);
-        promise(11, "the blank nearest to the middle, the first of two", """
+        Rows.promise(11, "the blank nearest to the middle, the first of two", """
             write 0-50:aa bb cc|60-90:aaa b ccc|100-130:a. b. c. d|140-150:a b c d
             load = 4
             subtitle 0 6 = 2
@@ -561,7 +475,7 @@ public final class PromiseTest {
             character 1 0 = 98
             subtitle 1 2 = 5
             """);
-        promise(11, "the middle lies at half the length minus 1", """
+        Rows.promise(11, "the middle lies at half the length minus 1", """
             write 0-50:aa bb c|60-90:aaa bb ccc|100-130:a bb cc dd e
             load = 3
             subtitle 0 6 = 2
@@ -574,14 +488,14 @@ public final class PromiseTest {
             load = 1
             subtitle 4 6 = 3
             """);
-        promise(11, "comma before any, full stop before comma", """
+        Rows.promise(11, "comma before any, full stop before comma", """
             write 0-50:a, bbbb cccc dd|60-99:aaaa bbbb, cccc d.|100-150:aaa, bbb, ccc d. e
             load = 3
             subtitle 0 6 = 2
             subtitle 1 6 = 10
             subtitle 2 6 = 16
             """);
-        promise(11, "both parts are shown", """
+        Rows.promise(11, "both parts are shown", """
             write 0-4:a bbbbbbbbbbbbbbbb|10-14:bbbbbbbbbbbbbbbb a|20-23:a b
             load = 3
             split 2 = NOT_POSSIBLE
@@ -597,7 +511,7 @@ public final class PromiseTest {
             subtitle 4 1 = 21
             subtitle 5 0 = 22
             """);
-        promise(11, "the first is shown for at most all but one frame", """
+        Rows.promise(11, "the first is shown for at most all but one frame", """
             set GAP 0 = 2
             write 0-2:a bbbbbbbbbbbbb|10-20:aaaaaaaaaaaaaaaaaaaaaaaaaa b|30-37:aaa bb
             load = 3
@@ -611,7 +525,7 @@ public final class PromiseTest {
             split 4 = 3
             subtitle 4 1 = 34
             """);
-        promise(11, "wrong splits", """
+        Rows.promise(11, "wrong splits", """
             split 0 = NO_SUCH
             write 0-40:ab
             load = 1
@@ -619,7 +533,7 @@ public final class PromiseTest {
             split 1 = NO_SUCH
             split -1 = NO_SUCH
             """);
-        promise(11, "no room", """
+        Rows.promise(11, "no room", """
             write 0-1:a|2-3:b|4-5:c|6-7:d|8-9:e|10-11:f|12-13:g|14-15:h|16-17:i|18-19:j
             load = 10
             write 20-21:a|22-23:b|24-25:c|26-27:d|28-29:e|30-31:f|32-33:g|34-35:h|36-37:i
@@ -635,8 +549,8 @@ public final class PromiseTest {
             """);
     }
 
-    private static void joins() throws Exception {
-        promise(12, "join", """
+    private static void joins() {
+        Rows.promise(12, "join", """
             write 0-10:ab|20-30:c.|40-60:d
             load = 3
             join 2 = NO_SUCH
@@ -659,7 +573,7 @@ public final class PromiseTest {
             character 0 3 = 99
             join 0 = NO_SUCH
             """);
-        promise(12, "the ones behind keep their order", """
+        Rows.promise(12, "the ones behind keep their order", """
             write 0-10:a|20-30:b|40-50:c|60-70:d|80-90:e
             load = 5
             join 1 = 3
@@ -675,7 +589,7 @@ public final class PromiseTest {
             character 3 0 = 101
             character 4 0 = 102
             """);
-        promise(12, "at most 40 characters", """
+        Rows.promise(12, "at most 40 characters", """
             write 0-10:aaaaaaaaaaaaaaaaaaaa|20-30:bbbbbbbbbbbbbbbbbbbb
             load = 2
             join 0 = TOO_MANY
@@ -689,8 +603,8 @@ public final class PromiseTest {
             """);
     }
 
-    private static void seats() throws Exception {
-        promise(13, "seat moves the end, then the start", """
+    private static void seats() {
+        Rows.promise(13, "seat moves the end, then the start", """
             write 10-11:a|100-110:b|130-140:c
             load = 3
             seat = 3
@@ -701,7 +615,7 @@ public final class PromiseTest {
             subtitle 2 1 = 155
             seat = 0
             """);
-        promise(13, "seat keeps the gap to both sides", """
+        Rows.promise(13, "seat keeps the gap to both sides", """
             write 0-20:a|24-30:b|40-45:c|4990-5000:d
             load = 4
             seat = 4
@@ -713,14 +627,14 @@ public final class PromiseTest {
             subtitle 3 1 = 5000
             subtitle 3 0 = 4975
             """);
-        promise(13, "the first one begins at 0 at the least", """
+        Rows.promise(13, "the first one begins at 0 at the least", """
             write 4-10:a|20-60:b
             load = 2
             seat = 1
             subtitle 0 0 = 0
             subtitle 0 1 = 18
             """);
-        promise(13, "seat never makes a subtitle shorter for the gap", """
+        Rows.promise(13, "seat never makes a subtitle shorter for the gap", """
             write 10-20:a|21-30:b|31-90:c
             load = 3
             seat = 1
@@ -730,14 +644,14 @@ public final class PromiseTest {
             subtitle 1 1 = 30
             subtitle 2 0 = 31
             """);
-        promise(13, "a long text needs more than LEAST", """
+        Rows.promise(13, "a long text needs more than LEAST", """
             write 0-5:aaaaaaaaaabbbbbbbbbb
             load = 1
             subtitle 0 3 = 30
             seat = 1
             subtitle 0 1 = 30
             """);
-        promise(13, "seat snaps to a cut", """
+        Rows.promise(13, "seat snaps to a cut", """
             write 0-30:a|100-130:b|200-230:c
             load = 3
             cut 24 = 1
@@ -758,7 +672,7 @@ public final class PromiseTest {
             seat = 1
             subtitle 2 1 = 236
             """);
-        promise(13, "a cut that is the end already holds it", """
+        Rows.promise(13, "a cut that is the end already holds it", """
             write 0-40:a
             load = 1
             cut 40 = 1
@@ -766,7 +680,7 @@ public final class PromiseTest {
             seat = 0
             subtitle 0 1 = 40
             """);
-        promise(13, "no snap above the limit", """
+        Rows.promise(13, "no snap above the limit", """
             write 0-40:a|45-90:b
             load = 2
             cut 44 = 1
@@ -775,7 +689,7 @@ public final class PromiseTest {
             seat = 1
             subtitle 0 1 = 43
             """);
-        promise(13, "no snap to a cut that leaves too few frames", """
+        Rows.promise(13, "no snap to a cut that leaves too few frames", """
             write 0-28:a
             load = 1
             cut 24 = 1
@@ -785,7 +699,7 @@ public final class PromiseTest {
             seat = 1
             subtitle 0 1 = 25
             """);
-        promise(13, "a far cut is left alone, and the earlier one of two is taken", """
+        Rows.promise(13, "a far cut is left alone, and the earlier one of two is taken", """
             write 0-100:a|200-240:b
             load = 2
             cut 50 = 1
@@ -796,11 +710,11 @@ public final class PromiseTest {
             seat = 1
             subtitle 1 1 = 237
             """);
-        promise(13, "no subtitles", "seat = 0\nundo = 0");
+        Rows.promise(13, "no subtitles", "seat = 0\nundo = 0");
     }
 
-    private static void cutsAndSettings() throws Exception {
-        promise(14, "cut", """
+    private static void cutsAndSettings() {
+        Rows.promise(14, "cut", """
             cut 0 = BAD_VALUE
             cut -1 = BAD_VALUE
             cut 5000 = BAD_VALUE
@@ -827,7 +741,7 @@ public final class PromiseTest {
             cut 0 = BAD_VALUE
             cuts = 12
             """);
-        promise(15, "uncut", """
+        Rows.promise(15, "uncut", """
             uncut 5 = NO_SUCH
             uncut 0 = NO_SUCH
             cut 5 = 1
@@ -845,7 +759,7 @@ public final class PromiseTest {
             uncut min = NO_SUCH
             uncut max = NO_SUCH
             """);
-        promise(16, "the ranges of the settings", """
+        Rows.promise(16, "the ranges of the settings", """
             set -1 10 = NO_SUCH
             set 6 min = NO_SUCH
             set max 10 = NO_SUCH
@@ -880,7 +794,7 @@ public final class PromiseTest {
             setting WIDTH = 40
             setting SNAP = 12
             """);
-        promise(22, "cuts", """
+        Rows.promise(22, "cuts", """
             cuts = 0
             cut 9 = 1
             cuts = 1
@@ -889,7 +803,7 @@ public final class PromiseTest {
             uncut 9 = 0
             cuts = 0
             """);
-        promise(23, "cutAt", """
+        Rows.promise(23, "cutAt", """
             cutAt 0 = NONE
             cutAt -1 = BAD_VALUE
             cutAt min = BAD_VALUE
@@ -901,7 +815,7 @@ public final class PromiseTest {
             cutAt 12 = NONE
             cutAt max = NONE
             """);
-        promise(24, "setting", """
+        Rows.promise(24, "setting", """
             setting -1 = NO_SUCH
             setting 6 = NO_SUCH
             setting min = NO_SUCH
@@ -912,8 +826,8 @@ public final class PromiseTest {
             """);
     }
 
-    private static void questions() throws Exception {
-        promise(17, "subtitles", """
+    private static void questions() {
+        Rows.promise(17, "subtitles", """
             subtitles = 0
             write 0-10:a b|20-30:c|25-50:d
             load = 2
@@ -921,7 +835,7 @@ public final class PromiseTest {
             split 0 = 1
             subtitles = 3
             """);
-        promise(18, "subtitle", """
+        Rows.promise(18, "subtitle", """
             subtitle 0 0 = NO_SUCH
             write 10-60:aaaaaaaaaabbbbbbbbbbccccccc ddd.|70-80:e
             load = 2
@@ -951,7 +865,7 @@ public final class PromiseTest {
             subtitle 0 3 = 20
             subtitle 1 3 = 5
             """);
-        promise(19, "character", """
+        Rows.promise(19, "character", """
             character 0 0 = NO_SUCH
             write 10-60:a, z.
             load = 1
@@ -968,7 +882,7 @@ public final class PromiseTest {
             character 1 -1 = NO_SUCH
             character -1 0 = NO_SUCH
             """);
-        promise(20, "line", """
+        Rows.promise(20, "line", """
             line 0 0 = NO_SUCH
             set WIDTH 10 = 20
             write 0-50:aaaa bbbbb ccccc ddddd ee fffffffffff g
@@ -994,7 +908,7 @@ public final class PromiseTest {
             line 0 0 = 37
             line 0 1 = 1
             """);
-        promise(21, "at", """
+        Rows.promise(21, "at", """
             at 0 = NONE
             at -1 = BAD_VALUE
             at 5000 = BAD_VALUE
@@ -1011,7 +925,7 @@ public final class PromiseTest {
             at 4990 = 2
             at 4999 = 2
             """);
-        promise(26, "shown", """
+        Rows.promise(26, "shown", """
             shown = 0
             write 0-5:a|7-100:b
             load = 2
@@ -1019,12 +933,12 @@ public final class PromiseTest {
             setEnd 0 6 = 5
             shown = 99
             """);
-        promise(27, "one frame", """
+        Rows.promise(27, "one frame", """
             write 7-8:abc
             load = 1
             meanSpeed = 75.0
             """);
-        promise(27, "meanSpeed", """
+        Rows.promise(27, "meanSpeed", """
             meanSpeed = 0.0
             write 0-7:a|10-13:bb|20-26:ccccc
             load = 3
@@ -1036,8 +950,8 @@ public final class PromiseTest {
             """);
     }
 
-    private static void faults() throws Exception {
-        promise(18, "faults 1, 2 and 4 at their edges", """
+    private static void faults() {
+        Rows.promise(18, "faults 1, 2 and 4 at their edges", """
             write 0-25:aaaaaaaaaaaaaaaaa|100-125:bbbbbbbbbbbbbbbbbb|200-350:c|400-551:d|600-624:e
             load = 5
             subtitle 0 4 = 0
@@ -1046,7 +960,7 @@ public final class PromiseTest {
             subtitle 3 4 = 4
             subtitle 4 4 = 2
             """);
-        promise(18, "fault 8 at its edges", """
+        Rows.promise(18, "fault 8 at its edges", """
             write 0-30:a|32-60:b|61-90:c
             load = 3
             subtitle 0 4 = 0
@@ -1055,7 +969,7 @@ public final class PromiseTest {
             set GAP 0 = 2
             subtitle 1 4 = 0
             """);
-        promise(18, "fault 16 at its edges", """
+        Rows.promise(18, "fault 16 at its edges", """
             write 100-200:a
             load = 1
             cut 100 = 1
@@ -1077,7 +991,7 @@ public final class PromiseTest {
             set SNAP 1 = 6
             subtitle 0 4 = 0
             """);
-        promise(18, "fault 32 at its edges", """
+        Rows.promise(18, "fault 32 at its edges", """
             set WIDTH 10 = 20
             write 0-70:aaaaaaaaaa bbbbbbbbbb|100-170:aaaaaaaaaaa bb|200-270:aaaaaa bbbbbb ccc
             load = 3
@@ -1089,7 +1003,7 @@ public final class PromiseTest {
             load = 1
             subtitle 2 4 = 32
             """);
-        promise(25, "faulty", """
+        Rows.promise(25, "faulty", """
             faulty 0 = 0
             write 0-10:aaaaaaaaaa|11-40:b|41-300:c|310-330:d
             load = 4
@@ -1114,14 +1028,14 @@ public final class PromiseTest {
             faulty min = BAD_VALUE
             faulty max = BAD_VALUE
             """);
-        promise(25, "any fault counts for 0", """
+        Rows.promise(25, "any fault counts for 0", """
             write 0-25:aaaaaaaaaabbbbbbbbbb
             load = 1
             subtitle 0 4 = 1
             faulty 0 = 1
             faulty 1 = 1
             """);
-        promise(25, "faulty lines", """
+        Rows.promise(25, "faulty lines", """
             write 0-100:aaaaaaaaaabbbbbbbbbbc
             load = 1
             faulty 32 = 1
@@ -1131,8 +1045,8 @@ public final class PromiseTest {
             """);
     }
 
-    private static void wouldBes() throws Exception {
-        promise(30, "a full film", """
+    private static void wouldBes() {
+        Rows.promise(30, "a full film", """
             write 0-1:a|2-3:b|4-5:c|6-7:d|8-9:e|10-11:f|12-13:g|14-15:h|16-17:i|18-19:j
             load = 10
             write 20-21:a|22-23:b|24-25:c|26-27:d|28-29:e|30-31:f|32-33:g|34-35:h|36-37:i
@@ -1181,7 +1095,7 @@ public final class PromiseTest {
             join 18 = 3
             remove 0 = 18
             """);
-        promise(28, "unread", """
+        Rows.promise(28, "unread", """
             unread 1 = 0
             unread 0 = BAD_VALUE
             unread 61 = BAD_VALUE
@@ -1198,7 +1112,7 @@ public final class PromiseTest {
             unread 50 = 0
             unread 60 = 0
             """);
-        promise(29, "leastPace", """
+        Rows.promise(29, "leastPace", """
             leastPace = 1
             write 0-25:aaaaaaaaaa|30-40:b
             load = 2
@@ -1210,13 +1124,13 @@ public final class PromiseTest {
             setEnd 0 4 = 5
             leastPace = NONE
             """);
-        promise(29, "leastPace up to 60", """
+        Rows.promise(29, "leastPace up to 60", """
             write 0-5:aaaaaaaaaaaa
             load = 1
             leastPace = 60
             unread 60 = 0
             """);
-        promise(30, "ifSeated changes nothing", """
+        Rows.promise(30, "ifSeated changes nothing", """
             ifSeated 0 = 0
             ifSeated 1 = 0
             ifSeated 2 = 0
@@ -1240,14 +1154,14 @@ public final class PromiseTest {
             undo = 2
             subtitle 1 1 = 100
             """);
-        promise(30, "faults that stay", """
+        Rows.promise(30, "faults that stay", """
             write 10-20:a|21-30:b|31-90:c
             load = 3
             ifSeated 0 = 1
             ifSeated 1 = 2
             ifSeated 2 = 88
             """);
-        promise(31, "bestGap", """
+        Rows.promise(31, "bestGap", """
             bestGap = 0
             write 0-20:aaaaaaaaaa|20-30:bbbbbbbbbb|90-120:c
             load = 3
@@ -1255,7 +1169,7 @@ public final class PromiseTest {
             setting GAP = 2
             subtitle 1 1 = 30
             """);
-        promise(31, "a gap that keeps a cut out of reach of the first one", """
+        Rows.promise(31, "a gap that keeps a cut out of reach of the first one", """
             set LEAST 5 = 25
             set SPEED 25 = 17
             cut 30 = 1
@@ -1275,7 +1189,7 @@ public final class PromiseTest {
             faulty 1 = 0
             subtitle 1 0 = 28
             """);
-        promise(31, "only a gap of 11 helps, as large as it can be with SNAP at most 12", """
+        Rows.promise(31, "only a gap of 11 helps, as large as it can be with SNAP at most 12", """
             set LEAST 5 = 25
             set SPEED 25 = 17
             set SNAP 12 = 6
