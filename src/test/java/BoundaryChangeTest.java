@@ -843,6 +843,16 @@ public final class BoundaryChangeTest {
             subtitle 0 1 = 43
             subtitle 2 1 = 140
             """);
+        Rows.promise(13, "the first one and the last one of 12 cuts", """
+            write 50-96:a|550-603:b|1150-1205:c
+            load = 3
+            make cuts 12
+            seat = 3
+            subtitle 0 1 = 100
+            subtitle 1 1 = 600
+            subtitle 2 1 = 1200
+            seat = 0
+            """);
         Rows.promise(13, "the latest cut that can be", """
             write 4950-4993:a
             load = 1

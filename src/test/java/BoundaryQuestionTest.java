@@ -433,6 +433,12 @@ public final class BoundaryQuestionTest {
             remove 1 = 1
             character 1 0 = NO_SUCH
             """);
+        Rows.promise(19, "the first one and the last one of 20", """
+            make film 20
+            character 0 0 = 97
+            character 19 0 = 116
+            character 20 0 = NO_SUCH
+            """);
         Rows.promise(19, "each kind of character", """
             write 0-5:az, .
             load = 1
@@ -546,6 +552,13 @@ public final class BoundaryQuestionTest {
             subtitle 0 5 = 4
             line 0 3 = 1
             line 0 4 = NONE
+            """);
+        Rows.promise(20, "the first one and the last one of 20", """
+            make film 20
+            line 0 0 = 1
+            line 19 0 = 1
+            line 19 1 = NONE
+            line 20 0 = NO_SUCH
             """);
         Rows.promise(20, "as many words as there can be", """
             set WIDTH 10 = 20
@@ -1048,6 +1061,15 @@ public final class BoundaryQuestionTest {
             set GAP 1 = 2
             seat = 2
             faulty 1 = 1
+            """);
+        Rows.promise(31, "the last one of 12 cuts", """
+            set LEAST 5 = 25
+            set SPEED 25 = 17
+            write 1170-1195:a|1200-1210:<b*14>|1211-1290:c
+            load = 3
+            bestGap = 0
+            make cuts 12
+            bestGap = 1
             """);
         Rows.promise(31, "20 subtitles", """
             make film 20

@@ -729,6 +729,20 @@ public final class BoundaryScriptTest {
             why 1 = 1
             why 2 = 0
             """);
+        Rows.promise(6, "the least and the greatest reason", """
+            make film 20
+            write 900-900:a
+            load = 0
+            why 1 = 1
+            write 0-900:a
+            load = 0
+            why 1 = 2
+            write 899-900:a
+            load = 0
+            why 0 = 0
+            why 1 = 3
+            why 2 = 0
+            """);
         Rows.promise(6, "the latest entry that 80 characters have room for", """
             write 0-1:a|1-2:a|2-3:a|3-4:a|4-5:a|5-6:a|6-7:a|7-8:a|8-9:a|9-10:a|10-11:a|0-1:a
             load = 11
