@@ -732,6 +732,25 @@ public final class BoundaryChangeTest {
             subtitle 1 0 = 35
             subtitle 1 1 = 60
             """);
+        Rows.promise(13, "the start moves by what the text needs, more than LEAST", """
+            write 0-20:a|100-130:<b*40>|132-160:c
+            load = 3
+            subtitle 1 3 = 59
+            seat = 2
+            subtitle 0 1 = 25
+            subtitle 1 0 = 71
+            subtitle 1 1 = 130
+            subtitle 2 0 = 132
+            """);
+        Rows.promise(13, "the start moves by what the text needs, fewer than 25 frames", """
+            set LEAST 5 = 25
+            write 100-104:<a*10>|106-111:b
+            load = 2
+            subtitle 0 3 = 15
+            seat = 1
+            subtitle 0 0 = 89
+            subtitle 0 1 = 104
+            """);
         Rows.promise(13, "GAP is 0", """
             set GAP 0 = 2
             write 0-10:a|25-30:b|45-50:c|50-90:d
@@ -852,6 +871,28 @@ public final class BoundaryChangeTest {
             subtitle 1 1 = 600
             subtitle 2 1 = 1200
             seat = 0
+            """);
+        Rows.promise(13, "the first frame is no cut, however near it is", """
+            set LEAST 5 = 25
+            set SNAP 12 = 6
+            write 0-5:a
+            load = 1
+            cut 17 = 1
+            seat = 1
+            subtitle 0 1 = 17
+            undo = 3
+            cut 11 = 2
+            seat = 1
+            subtitle 0 1 = 11
+            """);
+        Rows.promise(13, "the last frame is no cut, however near it is", """
+            set SNAP 12 = 6
+            write 4900-4999:a
+            load = 1
+            seat = 0
+            cut 4987 = 1
+            seat = 1
+            subtitle 0 1 = 4987
             """);
         Rows.promise(13, "the latest cut that can be", """
             write 4950-4993:a

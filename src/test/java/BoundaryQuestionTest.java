@@ -842,6 +842,13 @@ public final class BoundaryQuestionTest {
             setEnd 0 3000 = 7
             meanSpeed = 0.008333334
             """);
+        Rows.promise(27, "texts and times of different lengths count together", """
+            write 0-1:a|10-13:<b*30>|20-44:c
+            load = 3
+            meanSpeed = 28.571428
+            remove 1 = 2
+            meanSpeed = 2.0
+            """);
         Rows.promise(27, "all of 20", """
             make film 20
             meanSpeed = 5.0

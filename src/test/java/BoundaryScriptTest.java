@@ -889,6 +889,21 @@ public final class BoundaryScriptTest {
             setting SNAP = 6
             cuts = 12
             """);
+        Rows.promise(7, "what was there before a second load comes back", """
+            write 10-20:ab
+            load = 1
+            cut 7 = 1
+            set GAP 9 = 2
+            write 30-40:c|50-60:d
+            load = 2
+            subtitles = 3
+            undo = 3
+            subtitles = 1
+            subtitle 0 0 = 10
+            character 0 1 = 98
+            cutAt 0 = 7
+            setting GAP = 9
+            """);
         Rows.promise(7, "a film comes back empty", """
             write 0-1:a|2-3:b
             load = 2

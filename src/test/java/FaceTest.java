@@ -23,7 +23,13 @@ public final class FaceTest {
     private static final String[] FORBIDDEN = {"\\bimport\\b", "\\bpackage\\b", "->", "::", "\\bcatch\\b", "\\btry\\b",
         "\\bfinally\\b", "\\bthrow\\b", "\\bsynchronized\\b", "\\bassert\\b", "\\bdouble\\b", "\\binstanceof\\b",
         "\\bString\\b", "\\bObject\\b", "\\bvar\\b", "\\bprotected\\b", "\\bRandom\\b", "\\bInteger\\.(?!bitCount)",
-        "\\bSystem\\.(?!arraycopy\\()", "\\bMath\\.(?!(max|min|abs)\\()", "[^\\x00-\\x7f]"};
+        "\\bSystem\\.(?!arraycopy\\()", "\\bMath\\.(?!(max|min|abs)\\()", "[^\\x00-\\x7f]", "\\bwhile \\(true\\)",
+        "\\bfor \\([^;]*; *;", "\\b(LOWEST|HIGHEST|AT_FIRST)\\[[^\\]]*\\] *(=[^=]|\\+|-)", "%"};
+    private static final int LONGEST_METHOD = 60;
+    private static final int MOST_PARAMETERS = 7;
+    /** The only quotients: the divisor of each is looked at first. */
+    private static final String QUOTIENT = "return divisor < 1 ? 0 : amount / divisor;";
+    private static final String MEAN = "(float) film.lengthOfAll() * 25.0f / (float) frames";
 
     private static int wrong = 0;
 
@@ -93,11 +99,28 @@ public final class FaceTest {
         }
     }
 
+    private static void checkMembers(Class<?> type) {
+        for (Method method : type.getDeclaredMethods()) {
+            due("parameters of " + method, method.getParameterCount() <= MOST_PARAMETERS, true);
+        }
+        int fields = 0;
+        for (Field field : type.getDeclaredFields()) {
+            if (Modifier.isStatic(field.getModifiers())) {
+                due("final " + field, Modifier.isFinal(field.getModifiers()), true);
+                due("type of " + field, field.getType() == int.class || field.getType() == int[].class, true);
+            } else {
+                fields++;
+            }
+        }
+        due("fields of " + type, fields <= 20, true);
+    }
+
     private static void checkInnerClasses() {
+        checkMembers(SubtitleSeats.class);
         for (Class<?> inner : SubtitleSeats.class.getDeclaredClasses()) {
             due("static " + inner, Modifier.isStatic(inner.getModifiers()), true);
             due("public " + inner, Modifier.isPublic(inner.getModifiers()), false);
-            due("fields of " + inner, inner.getDeclaredFields().length <= 20, true);
+            checkMembers(inner);
             for (Method method : inner.getDeclaredMethods()) {
                 due("face's name " + method.getName(), FACE.matches("(?s).*\\b" + method.getName() + " .*"), false);
             }
@@ -111,7 +134,28 @@ public final class FaceTest {
             Matcher matcher = Pattern.compile(forbidden).matcher(code);
             due("uses of " + forbidden, matcher.find(), false);
         }
+        due("quotients", code.replace(QUOTIENT, "").replace(MEAN, "").contains("/"), false);
+        checkMethodLengths(source.split("\n"));
         checkThatCallsMakeNothing(code);
+    }
+
+    /** From the row that opens a method to the one that closes it, which is set in as far. */
+    private static void checkMethodLengths(String[] rows) {
+        Pattern head = Pattern.compile("( {4}| {8})\\w[\\w ]*\\(.*\\) \\{");
+        int methods = 0;
+        for (int i = 0; i < rows.length; i++) {
+            Matcher matcher = head.matcher(rows[i]);
+            if (!matcher.matches() || rows[i].strip().matches("(for|if|while|switch) .*")) {
+                continue;
+            }
+            int end = i;
+            while (end < rows.length && !rows[end].equals(matcher.group(1) + "}")) {
+                end++;
+            }
+            methods++;
+            due("long method" + rows[i], end - i < LONGEST_METHOD, true);
+        }
+        due("methods are found in the source", methods > 60, true);
     }
 
     /** All rows come from constructors, so that no run of calls can outgrow the room that it has. */
