@@ -423,6 +423,19 @@ public final class BoundaryChangeTest {
             subtitle 0 2 = 38
             subtitle 1 2 = 1
             """);
+        Rows.promise(11, "the first one is shown for d - 1 frames, or for one fewer", """
+            write 0-41:<a*38> b
+            load = 1
+            split 0 = 38
+            subtitle 0 1 = 38
+            subtitle 1 0 = 40
+            undo = 1
+            setEnd 0 42 = 41
+            split 0 = 38
+            subtitle 0 1 = 38
+            subtitle 1 0 = 40
+            subtitle 1 1 = 42
+            """);
         Rows.promise(11, "rounded down", """
             set GAP 0 = 2
             write 0-10:aa b|20-29:aa b|40-48:aa b
